@@ -386,7 +386,6 @@ public final class RestBounds {
             if (i == NONE && arrows[s] < SIXTEEN) {
                 i = arrows[s];
                 target[s][i] = t;
-                weight[s][i] = 0;
                 arrows[s]++;
             }
             if (i != NONE) {

@@ -60,12 +60,15 @@ public final class ModelTest {
 
         void tellWalk() {
             int n = seed % 5 == 0 ? 20 : 2 + below(12);
-            int goers = 1 + below(Math.max(1, n - 1));
+            int share = 1 + below(9);
             for (int s = 0; s < n; s++) {
-                state(s < goers ? -1 : below(8));
+                state(below(10) < share ? -1 : below(8));
             }
             int grain = 1 + below(5);
-            for (int s = 0; s < goers; s++) {
+            for (int s = 0; s < n; s++) {
+                if (model.isEnd(s)) {
+                    continue;
+                }
                 int left = 16;
                 for (int tries = 0; tries < 40 && left > 0; tries++) {
                     int k = Math.min(left, 1 + below(grain * grain));
@@ -83,14 +86,14 @@ public final class ModelTest {
             }
             if (seed % 4 == 0) {
                 for (int tries = 0; tries < 30; tries++) {
-                    law(below(goers), below(goers));
+                    law(below(n), below(n));
                 }
             }
             if (below(3) == 0) {
                 joined(true);
             }
             order(below(3));
-            begin(0);
+            begin(below(n));
         }
 
         int odd(int low, int high) {

@@ -32,6 +32,8 @@ public final class PromiseTest {
         promise = 6;
         joining();
         joiningWithinOneSharing();
+        joiningAtSixtyItems();
+        joiningOffAndOn();
         promise = 7;
         beginnings();
         promise = 8;
@@ -40,6 +42,7 @@ public final class PromiseTest {
         sixtyItems();
         sharesOfNoUnits();
         lawsShare();
+        manyShares();
         promise = 9;
         growingUntil();
         promise = 10;
@@ -157,6 +160,7 @@ public final class PromiseTest {
     private static void statesTakeAway() {
         RestBounds x = halving();
         x.begin(0);
+        x.grow(1);
         x.law(0, 0);
         x.save(0);
         x.save(2);
@@ -164,7 +168,7 @@ public final class PromiseTest {
         x.joined(true);
         due("state(8)", x.state(8), BAD);
         due("told(10): BAD took nothing away", x.told(10), 0);
-        due("told(1): BAD took nothing away", x.told(1), 1);
+        due("told(1): BAD took nothing away", x.told(1), 2);
         due("state(1)", x.state(1), 2);
         due("told(1)", x.told(1), 0);
         due("told(2)", x.told(2), 0);
@@ -454,6 +458,77 @@ public final class PromiseTest {
         }
     }
 
+    /** At DEPTH 39, with so many ITEMS, a RING's four SHARES are two ITEMS if they are joined. */
+    private static RestBounds deepAndWide(int items) {
+        RestBounds x = new RestBounds();
+        x.state(NONE);
+        x.state(NONE);
+        x.state(0);
+        x.state(1);
+        for (int s = 0; s < 2; s++) {
+            x.arrow(s, 2, 4);
+            x.arrow(s, 3, 4);
+            x.arrow(s, 1 - s, 8);
+        }
+        x.order(2);
+        x.begin(0);
+        x.grow(20);
+        x.order(0);
+        x.grow(79 - items);
+        x.order(2);
+        x.grow(19);
+        x.law(1, 0);
+        return x;
+    }
+
+    private static void joiningAtSixtyItems() {
+        RestBounds x = deepAndWide(59);
+        due("told(1)", x.told(1), 59);
+        due("item(58, 0)", x.item(58, 0), 1);
+        due("item(58, 1)", x.item(58, 1), 39);
+        due("grow(1) with JOINED off", x.grow(1), 0);
+        x.joined(true);
+        due("grow(1) with JOINED on", x.grow(1), 1);
+        due("told(1)", x.told(1), 60);
+        due("item(58, 0)", x.item(58, 0), 2);
+        due("item(59, 0)", x.item(59, 0), 3);
+        due("units(58)", x.units(58), 1048575);
+        due("units(59)", x.units(59), 1048575);
+        due("rests(1)", x.rests(1), 2);
+        x = deepAndWide(60);
+        x.joined(true);
+        due("told(1)", x.told(1), 60);
+        due("grow(1): 61 with JOINED on", x.grow(1), 0);
+        due("told(1)", x.told(1), 60);
+        x = deepAndWide(57);
+        due("told(1)", x.told(1), 57);
+        due("grow(1): 60 with JOINED off", x.grow(1), 1);
+        due("told(1)", x.told(1), 60);
+    }
+
+    private static void joiningOffAndOn() {
+        // ITEMS of one state and DEPTH that are there already: what is joined comes to the first one.
+        RestBounds x = new RestBounds();
+        for (int s = 0; s < 4; s++) {
+            x.state(NONE);
+        }
+        x.state(0);
+        x.arrow(0, 1, 4);
+        x.arrow(0, 2, 4);
+        x.arrow(0, 3, 8);
+        for (int s = 1; s < 4; s++) {
+            x.arrow(s, 4, 16);
+        }
+        x.begin(0);
+        x.grow(3);
+        due("told(1)", x.told(1), 3);
+        x.joined(true);
+        due("grow(1)", x.grow(1), 1);
+        due("told(1)", x.told(1), 2);
+        due("units(0)", x.units(0), ALL / 4 * 3);
+        due("units(1)", x.units(1), ALL / 4);
+    }
+
     private static void beginnings() {
         RestBounds x = fork();
         due("begin(-1)", x.begin(-1), BAD);
@@ -479,6 +554,25 @@ public final class PromiseTest {
         due("back(0): SAVES stay", x.back(0), 0);
         beginningsThatAreNotWhole();
         beginningsKeepLaws();
+        beginningsBeforeState0();
+    }
+
+    private static void beginningsBeforeState0() {
+        RestBounds x = new RestBounds();
+        x.state(NONE);
+        x.state(NONE);
+        x.state(4);
+        x.arrow(1, 0, 1);
+        x.arrow(1, 2, 15);
+        due("begin(1) when 0 is not WHOLE", x.begin(1), NO);
+        x.arrow(0, 0, 16);
+        due("begin(1)", x.begin(1), 16);
+        due("end(16, 0): 0 comes to no END", x.end(16, 0), 0);
+        x = new RestBounds();
+        x.state(4);
+        x.state(NONE);
+        x.arrow(1, 0, 16);
+        due("begin(1): the END is 0", x.begin(1), 16);
     }
 
     private static void beginningsThatAreNotWhole() {
@@ -649,6 +743,36 @@ public final class PromiseTest {
         due("item(0, 0)", x.item(0, 0), 2);
         due("item(0, 1)", x.item(0, 1), 2);
         due("units(0)", x.units(0), ALL);
+    }
+
+    /** A RING of 0 and 1, each with 15 other ARROWS to ENDS 2 .. 16 and 5 .. 19. */
+    private static void manyShares() {
+        RestBounds x = new RestBounds();
+        x.state(NONE);
+        x.state(NONE);
+        for (int s = 2; s < 20; s++) {
+            x.state(s % 8);
+        }
+        x.arrow(0, 1, 1);
+        x.arrow(1, 0, 1);
+        for (int i = 0; i < 15; i++) {
+            x.arrow(0, 2 + i, 1);
+            x.arrow(1, 5 + i, 1);
+        }
+        due("law(0, 1)", x.law(0, 1), 1);
+        x.begin(0);
+        due("grow(1)", x.grow(1), 1);
+        due("told(1)", x.told(1), 30);
+        for (int i = 0; i < 15; i++) {
+            // w = 16 and 1, D = 255
+            due("item(" + i + ", 0)", x.item(i, 0), 2 + i);
+            due("item(" + i + ", 1)", x.item(i, 1), 1);
+            due("units(" + i + ")", x.units(i), 72340172838076673L);
+            due("item(15 + " + i + ", 0)", x.item(15 + i, 0), 5 + i);
+            due("item(15 + " + i + ", 1)", x.item(15 + i, 1), 2);
+            due("units(15 + " + i + ")", x.units(15 + i), 4521260802379792L);
+        }
+        due("rests(0)", x.rests(0), 1);
     }
 
     private static void growingUntil() {
