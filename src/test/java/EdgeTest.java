@@ -967,6 +967,17 @@ public final class EdgeTest {
         return x;
     }
 
+    private static void promise8_sharesThatFindNoItemToJoinAreItemsMore() {
+        RestBounds x = stuck();
+        x.joined(true);
+        due("grow(1): 61", x.grow(1), 0);
+        due("told(1)", x.told(1), 46);
+        x = wide(15);
+        x.joined(true);
+        due("grow(1): 60", x.grow(1), 1);
+        due("told(1)", x.told(1), 60);
+    }
+
     private static void promise8_sharesOfOneSharingThatAreJoinedAreOneItem() {
         RestBounds x = deepAndWide(59);
         due("grow(1): 62 with JOINED off", x.grow(1), 0);
